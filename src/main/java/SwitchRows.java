@@ -202,10 +202,11 @@ public final class SwitchRows {
     }
 
     public int undo() throws IllegalStateException {
-        if (history.size == 0) {
+        int left = history.takeBack(now);
+        if (left == REFUSED) {
             throw new IllegalStateException("no state is remembered");
         }
-        return history.takeBack(now);
+        return left;
     }
 
     /** Ends an action: throws for an answer that tells a failure, else remembers the state noted before it. */
@@ -679,13 +680,16 @@ public final class SwitchRows {
         }
     }
 
-    /** The states before the last actions: a ring with one place more, for the state noted before an action that may fail. */
+    /**
+     * The states before the last actions, in a ring. It has one place more than states are remembered: an action may
+     * still fail when the state before it is noted, and must not cost the oldest one then.
+     */
     private static final class History {
         private static final int PLACES = MAX_REMEMBERED + 1;
 
         private final State[] kept = new State[PLACES];
         private int oldest;
-        int size;
+        private int size;
 
         History() {
             for (int i = 0; i < PLACES; i++) {
@@ -847,9 +851,9 @@ public final class SwitchRows {
             }
             for (int m = 0; m < MAX_BOARDS; m++) {
                 if (p.fits(c, m)) {
-                    boolean moves = p.before[c] != NONE && p.before[c] != m;
+                    boolean goesElsewhere = p.before[c] != NONE && p.before[c] != m;
                     p.hold(c, m);
-                    settle(p, depth + 1, moves ? moved + 1 : moved);
+                    settle(p, depth + 1, goesElsewhere ? moved + 1 : moved);
                     p.release(c, m);
                 }
             }
