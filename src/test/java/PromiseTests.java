@@ -263,7 +263,8 @@ public final class PromiseTests {
         write(y, "C2222");
         y.load();
         due("the moved calls are forgotten", 0, () -> y.about(6));
-        due("the thanks, too", 0, () -> y.thanks(1, true));
+        due("the thanks owed, too", 0, () -> y.thanks(1, true));
+        due("the thanks got, too", 0, () -> y.thanks(2, false));
         write(y, "C4444c0000c0101c0202c0303j0004c0405");
         due("a fifth call finds a board", 0, () -> y.load());
     }
@@ -319,6 +320,12 @@ public final class PromiseTests {
         due("to board 1", 1, () -> x.link(true, 0, 1));
         due("no middle board 1", INDEX, () -> x.link(true, 1, 0));
         due("no middle board -1", INDEX, () -> x.link(true, -1, 0));
+        SwitchRows z = loaded("C3233c0005");
+        due("from the input's board", 0, () -> z.link(false, 0, 0));
+        due("not from the output's one", NONE, () -> z.link(false, 0, 2));
+        due("to the output's board", 0, () -> z.link(true, 0, 2));
+        due("not to the input's one", NONE, () -> z.link(true, 0, 0));
+        due("not by another middle board", NONE, () -> z.link(true, 1, 2));
         SwitchRows y = loaded("C3224");
         due("no call", NONE, () -> y.link(true, 1, 3));
         due("no call from there", NONE, () -> y.link(false, 1, 2));
@@ -408,6 +415,8 @@ public final class PromiseTests {
         SwitchRows w = loaded("C2232" + TWO_APART.substring(5));
         due("no one moves if a board is free", 0, () -> w.connect(1, 3));
         due("it goes by that", 2, () -> w.call(2, 2));
+        SwitchRows u = loaded("C2222c0202c0000j0103h01c0101");
+        due("a new call did not move, though the one that had its number did", 0, () -> u.call(1, 3));
         SwitchRows v = loaded("C2232" + TWO_APART.substring(5) + "b2");
         due("but not by a broken one", 1, () -> v.connect(1, 3));
     }
@@ -433,6 +442,8 @@ public final class PromiseTests {
         due("no output 4", INDEX, () -> z.join(0, 4));
         due("no output -1", INDEX, () -> z.join(0, -1));
         due("a missing call before a taken output", INDEX, () -> z.join(2, 0));
+        SwitchRows v = loaded("C2222c0202h00b1c0202c0000");
+        due("it can't move to a broken board", STATE, () -> v.join(1, 3));
         SwitchRows w = new SwitchRows();
         w.connect(5, 5);
         for (int n = 2; n <= 4; n++) {
@@ -462,6 +473,10 @@ public final class PromiseTests {
         y.hang(1);
         due("the moves stay with the call", 1, () -> y.call(0, 3));
         due("and do not come to another", 0, () -> y.call(1, 3));
+        SwitchRows z = loaded("C2222c0202c0000j0103");
+        due("the second one moved", 1, () -> z.call(1, 3));
+        z.hang(0);
+        due("as the first one it still did", 1, () -> z.call(0, 3));
     }
 
     static void drop() {
@@ -516,6 +531,14 @@ public final class PromiseTests {
         promise = "promise 17";
         SwitchRows x = loaded(TWO_APART);
         due("none is remembered", STATE, () -> x.undo());
+        String before = view(x);
+        x.connect(1, 3);
+        due("a call that moved another one", 0, () -> x.undo());
+        dueView("moves and thanks are taken back", before, x);
+        SwitchRows y = new SwitchRows();
+        y.setBroken(1, true);
+        due("a broken board", 0, () -> y.undo());
+        due("it is mended", 0, () -> y.about(8));
         String[] views = new String[21];
         for (int i = 0; i < 20; i++) {
             views[i] = view(x);
