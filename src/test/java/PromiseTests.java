@@ -1,83 +1,5 @@
 /** At least one test for each promise of the document: ordinary inputs, the edges it names, and wrong inputs. */
-public final class PromiseTests {
-    static final long INDEX = Long.MIN_VALUE;
-    static final long ARGUMENT = Long.MIN_VALUE + 1;
-    static final long STATE = Long.MIN_VALUE + 2;
-    static final int NONE = -1;
-
-    /** One call at middle board 1 (2 to 2), one at 0 (0 to 0), on two boards in each row. */
-    static final String TWO_APART = "C2222b0c0202b0c0000";
-
-    static int wrong = 0;
-    static String promise = "";
-
-    interface Question {
-        long ask();
-    }
-
-    static String told(long answer) {
-        return answer == INDEX ? "IndexOutOfBoundsException"
-            : answer == ARGUMENT ? "IllegalArgumentException"
-            : answer == STATE ? "IllegalStateException" : "" + answer;
-    }
-
-    static void due(String what, long want, Question question) {
-        long got;
-        try {
-            got = question.ask();
-        } catch (IndexOutOfBoundsException e) {
-            got = e.getClass() == IndexOutOfBoundsException.class ? INDEX : Long.MAX_VALUE;
-        } catch (IllegalArgumentException e) {
-            got = e.getClass() == IllegalArgumentException.class ? ARGUMENT : Long.MAX_VALUE;
-        } catch (IllegalStateException e) {
-            got = e.getClass() == IllegalStateException.class ? STATE : Long.MAX_VALUE;
-        }
-        if (got != want) {
-            wrong++;
-            System.out.println(promise + ", " + what + ": answered " + told(got) + ", due is " + told(want));
-        }
-    }
-
-    static void write(SwitchRows x, String text) {
-        x.clearText();
-        for (int i = 0; i < text.length(); i++) {
-            x.append(text.charAt(i));
-        }
-    }
-
-    static SwitchRows loaded(String text) {
-        SwitchRows x = new SwitchRows();
-        write(x, text);
-        x.load();
-        return x;
-    }
-
-    /** All that the object tells of its state, in one text. */
-    static String view(SwitchRows x) {
-        StringBuilder view = new StringBuilder();
-        for (int what = 0; what <= 9; what++) {
-            view.append(x.about(what)).append(' ');
-        }
-        for (int c = 0; c < x.about(4); c++) {
-            view.append("| ");
-            for (int what = 0; what <= 4; what++) {
-                view.append(x.call(c, what)).append(' ');
-            }
-        }
-        for (int i = 0; i < x.about(0) * x.about(1); i++) {
-            view.append("; ").append(x.thanks(i, true)).append(' ').append(x.thanks(i, false));
-        }
-        return view.toString();
-    }
-
-    static void dueView(String what, String want, SwitchRows x) {
-        String got = view(x);
-        if (!got.equals(want)) {
-            wrong++;
-            System.out.println(promise + ", " + what + ": the state is " + got + ", due is " + want);
-        }
-    }
-
+public final class PromiseTests extends Checks {
     public static void main(String[] args) {
         newObject();
         append();
@@ -105,10 +27,7 @@ public final class PromiseTests {
         simulate();
         save();
         restore();
-        System.out.println(wrong == 0 ? "all answers are as due" : wrong + " answers are not as due");
-        if (wrong != 0) {
-            System.exit(1);
-        }
+        end();
     }
 
     static void newObject() {
@@ -744,34 +663,6 @@ public final class PromiseTests {
         SwitchRows y = loaded(TWO_APART);
         due("a move in it", NONE, () -> y.runScript(2, 1010370000L));
         due("patience in it", 1, () -> y.runScript(2, 6000010103L));
-    }
-
-    /** Does the turns by the public actions, as the document tells them. */
-    static long turnsByHand(SwitchRows x, long seed, int m) {
-        int moving = x.about(6);
-        for (int turn = 0; turn < m; turn++) {
-            seed = seed * 6364136223846793005L + 1442695040888963407L;
-            int r = (int) (seed >>> 33);
-            int i = r / 8 % (x.about(0) * x.about(1));
-            int o = r / 128 % (x.about(3) * x.about(1));
-            int c = r / 8 % Math.max(1, x.about(4));
-            try {
-                if (r % 8 <= 3) {
-                    x.connect(i, o);
-                } else if (r % 8 == 4) {
-                    x.join(c, o);
-                } else if (r % 8 <= 6) {
-                    x.hang(c);
-                } else {
-                    x.drop(o);
-                }
-            } catch (IllegalStateException e) {
-                // It is left out.
-            } catch (IndexOutOfBoundsException e) {
-                // It is left out.
-            }
-        }
-        return 1000L * (x.about(6) - moving) + x.about(4);
     }
 
     static void simulate() {
