@@ -11,6 +11,7 @@ public final class BoundaryTests extends Checks {
         errorPosition();
         loadOfNoExchange();
         loadReplacesEverything();
+        loadForgetsThanks();
         about();
         callNumbers();
         link();
@@ -31,6 +32,7 @@ public final class BoundaryTests extends Checks {
         weakestAmongSeveral();
         scriptLength();
         scriptPlaces();
+        scriptsThatAnswerZero();
         scriptZeros();
         scriptComparisons();
         scriptOnACopy();
@@ -184,6 +186,24 @@ public final class BoundaryTests extends Checks {
             most.append("h00");
         }
         due("all of 38", 38, () -> written(most.toString()).load());
+    }
+
+    static void loadForgetsThanks() {
+        sentence("Replaces everything by the boards of the text");
+        // In the first of them input 0 owes a thank, in the others it gets one.
+        String[] texts = {"C2322b0c0303b0c0101c0004", "C2322b0c0000b0c0303c0401", "C2322b0c0003b0c0301c0404"};
+        int[] owing = {0, 4, 4};
+        int[] getting = {3, 0, 0};
+        for (int i = 0; i < texts.length; i++) {
+            int owes = owing[i];
+            int gets = getting[i];
+            SwitchRows x = loaded(texts[i]);
+            due(texts[i] + ", owed", 1, () -> x.thanks(owes, true));
+            due(texts[i] + ", got", 1, () -> x.thanks(gets, false));
+            write(x, "C2322");
+            x.load();
+            dueText("behind another load", view(loaded("C2322")), view(x));
+        }
     }
 
     // ---- what there is
@@ -368,6 +388,13 @@ public final class BoundaryTests extends Checks {
         due("none is left", INDEX, () -> full.hang(0));
         due("no link is taken", 0, () -> full.about(7));
         due("no output is taken", 0, () -> full.about(9));
+        dueText("nothing is left of the calls", taken(loaded("C4444")), taken(full));
+        SwitchRows x = full();
+        x.hang(15);
+        due("the last call's link from the first row is free", NONE, () -> x.link(false, 3, 3));
+        due("the last call's link to the last row is free", NONE, () -> x.link(true, 3, 3));
+        due("its input is free", NONE, () -> x.at(false, 15));
+        due("its output is free", NONE, () -> x.at(true, 15));
     }
 
     static void drop() {
@@ -496,6 +523,9 @@ public final class BoundaryTests extends Checks {
         dueAndNothingElse("the input has a call", NONE, Checks::busy, x -> x.moves(0, 5));
         dueAndNothingElse("the output has a call", NONE, Checks::busy, x -> x.moves(2, 3));
         dueAndNothingElse("it is blocked", NONE, Checks::busy, x -> x.moves(2, 5));
+        due("only the input has a call", NONE, () -> loaded("C4444c0000").moves(0, 5));
+        due("only the output has a call", NONE, () -> loaded("C4444c0000").moves(5, 0));
+        due("only the output is a second one", NONE, () -> loaded("C4444c0000j0005").moves(9, 5));
         due("a new object", 0, () -> new SwitchRows().moves(5, 5));
         due("the full network", NONE, () -> full().moves(15, 15));
         String text = "C4424b0c0202c1312c1107b0c0701c0009c0813";
@@ -546,6 +576,8 @@ public final class BoundaryTests extends Checks {
         due("four of four boards, all are needed", 4, () -> loaded("C4442b0b1b2c1000b2c0702b1c0203b0c1101").fewest());
         due("three of three, by pairs that share no link", 3, () -> loaded("C4243c0000c0202j0004c0305j0101c0403").fewest());
         due("the others are broken", 2, () -> loaded("C2242b2b3c0000c0101").fewest());
+        due("two, though the first free board is not the best", 2, () -> loaded("C4342c0100c0205c0403").fewest());
+        due("two, though the first way to place them fails", 2, () -> loaded("C2433c0510c0401c0007c0303").fewest());
         due("the calls that have many outputs", 1, () -> loaded("C4444c0000j0004j0008j0012").fewest());
         due("they hinder all others", 2, () -> loaded("C4444c0000j0004j0008j0012c0401").fewest());
         dueAndNothingElse("the busy one", 2, Checks::busy, x -> x.fewest());
@@ -613,6 +645,7 @@ public final class BoundaryTests extends Checks {
         }
         for (int n : new int[] {0, 4, -1, Integer.MIN_VALUE, Integer.MAX_VALUE}) {
             dueAndNothingElse("n is " + n, ARGUMENT, Checks::busy, x -> x.runScript(n, 90000L));
+            due("n is " + n + ", the script 0", ARGUMENT, () -> busy().runScript(n, 0L));
         }
         due("one command", NONE, () -> busy().runScript(1, 90000L));
         due("zeros before it", 0, () -> busy().runScript(2, 90000L));
@@ -664,6 +697,18 @@ public final class BoundaryTests extends Checks {
                 dueScript(50000 + 1000 * m + 100 * b, m <= 2 && (b == 0 || b == 1 && m == 2));
             }
         }
+    }
+
+    static void scriptsThatAnswerZero() {
+        sentence("The commands 1 to 6 fail if the method would throw an exception (not if it answers 0)");
+        SwitchRows one = loaded("C1111c0000");
+        due("the last call ends", NONE, () -> one.runScript(2, 3000080000L));
+        due("no call is left to end", 1, () -> one.runScript(2, 3000030000L));
+        SwitchRows none = loaded("C1111p0");
+        due("the last whole board is broken", NONE, () -> none.runScript(1, 50100L));
+        due("then a call is blocked", 1, () -> none.runScript(2, 5010010000L));
+        due("the patience was 0", NONE, () -> none.runScript(1, 60003L));
+        due("no call moves", NONE, () -> none.runScript(1, 10000L));
     }
 
     static void scriptZeros() {

@@ -149,6 +149,28 @@ abstract class Checks {
         return view.toString();
     }
 
+    /** Who has the links and the places, in one text. */
+    static String taken(SwitchRows x) {
+        StringBuilder taken = new StringBuilder();
+        for (int m = 0; m < x.about(2); m++) {
+            for (int board = 0; board < x.about(0); board++) {
+                taken.append(x.link(false, m, board)).append(' ');
+            }
+            for (int board = 0; board < x.about(3); board++) {
+                taken.append(x.link(true, m, board)).append(' ');
+            }
+            taken.append("; ");
+        }
+        for (int i = 0; i < x.about(0) * x.about(1); i++) {
+            taken.append(x.at(false, i)).append(' ');
+        }
+        taken.append("; ");
+        for (int i = 0; i < x.about(3) * x.about(1); i++) {
+            taken.append(x.at(true, i)).append(' ');
+        }
+        return taken.toString();
+    }
+
     static String boards(SwitchRows x) {
         StringBuilder boards = new StringBuilder();
         for (int c = 0; c < x.about(4); c++) {
@@ -165,12 +187,12 @@ abstract class Checks {
             for (int i = 0; i < undone; i++) {
                 all.append(told(answer(() -> x.undo()))).append(' ');
             }
-            all.append(view(x)).append('\n');
+            all.append(view(x)).append(taken(x)).append('\n');
         }
         for (int slot = 0; slot < 2; slot++) {
             SwitchRows x = made(maker, before);
             int s = slot;
-            all.append(told(answer(() -> x.restore(s)))).append(' ').append(view(x)).append('\n');
+            all.append(told(answer(() -> x.restore(s)))).append(' ').append(view(x)).append(taken(x)).append('\n');
         }
         SwitchRows x = made(maker, before);
         all.append(x.errorPosition()).append(' ').append(told(answer(() -> x.load()))).append(' ').append(view(x));

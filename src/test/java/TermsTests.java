@@ -321,6 +321,15 @@ public final class TermsTests extends Checks {
             due("made again, it moves none", 0, () -> x.connect(c, c));
             due("it is the last one", c, () -> x.call(15, 0));
         }
+        SwitchRows moved = loaded(TWO_APART + "c0103");
+        due("the first call moved", 1, () -> moved.call(0, 3));
+        moved.hang(1);
+        due("it still did, when the one behind it ended", 1, () -> moved.call(0, 3));
+        due("the last one, call 1 then, did not", 0, () -> moved.call(1, 3));
+        SwitchRows second = loaded("C2222c0202c0000j0103");
+        due("the second call moved", 1, () -> second.call(1, 3));
+        second.hang(0);
+        due("it is call 0 then, and it did", 1, () -> second.call(0, 3));
         SwitchRows x = loaded("C2222c0303c0000");
         due("the lower input was made later", 1, () -> x.at(false, 0));
         due("the higher one before", 0, () -> x.at(false, 3));
@@ -819,16 +828,18 @@ public final class TermsTests extends Checks {
         due("with its patience", 3, () -> x.about(5));
         due("slot 0 stays", 1, () -> x.restore(0));
         due("with its own", 2, () -> x.about(5));
-        SwitchRows y = loaded("C2222b0c0202b0c0000b1");
+        SwitchRows y = loaded(TWO_APART);
         String before = view(y);
-        due("one moves", 1, () -> loaded(TWO_APART).connect(1, 3));
-        y.setBroken(1, false);
-        y.connect(1, 3);
+        due("one moves", 1, () -> y.connect(1, 3));
+        due("it moved once", 1, () -> y.call(0, 3));
+        String then = view(y);
         y.join(1, 1);
         y.hang(0);
-        for (int i = 0; i < 4; i++) {
-            y.undo();
-        }
+        y.undo();
+        y.undo();
+        dueView("what stands behind the first action", then, y);
+        y.undo();
+        due("it did not move", 0, () -> y.call(0, 3));
         dueView("calls, boards, moves and thanks are taken back", before, y);
     }
 
