@@ -10,13 +10,33 @@ import java.util.TreeSet;
 /** The document's face, and those rules of LANGUAGE.md that are easily told from the class and its text. */
 public final class FaceTests {
     static final String[] FACE = {
-        "int append(int)", "int clearText()", "int errorPosition()", "int load()", "int about(int)",
-        "int call(int,int)", "int link(boolean,int,int)", "int at(boolean,int)", "int thanks(int,boolean)",
-        "int connect(int,int)", "int join(int,int)", "int hang(int)", "int drop(int)", "int setBroken(int,boolean)",
-        "int setPatience(int)", "int undo()", "int moves(int,int)", "int open(int)", "int fewest()", "int weakest()",
-        "int runScript(int,long)", "int simulate(long,int)", "int save(int)", "int restore(int)"};
-    static final String[] BANNED = {"->", "::", "finally", "synchronized", "assert", "import ", "Exact(", "@", "hashCode",
-        "toString", "static {", "lambda", "System.currentTimeMillis", "System.nanoTime", "Object"};
+        "int append(int) IllegalArgument IllegalState",
+        "int clearText()",
+        "int errorPosition()",
+        "int load() IllegalState",
+        "int about(int) IllegalArgument",
+        "int call(int,int) IndexOutOfBounds IllegalArgument",
+        "int link(boolean,int,int) IndexOutOfBounds",
+        "int at(boolean,int) IndexOutOfBounds",
+        "int thanks(int,boolean) IndexOutOfBounds",
+        "int connect(int,int) IndexOutOfBounds IllegalState",
+        "int join(int,int) IndexOutOfBounds IllegalState",
+        "int hang(int) IndexOutOfBounds",
+        "int drop(int) IndexOutOfBounds IllegalState",
+        "int setBroken(int,boolean) IndexOutOfBounds IllegalState",
+        "int setPatience(int) IllegalArgument",
+        "int undo() IllegalState",
+        "int moves(int,int) IndexOutOfBounds",
+        "int open(int) IllegalArgument",
+        "int fewest()",
+        "int weakest()",
+        "int runScript(int,long) IllegalArgument",
+        "int simulate(long,int) IllegalArgument",
+        "int save(int) IndexOutOfBounds",
+        "int restore(int) IndexOutOfBounds IllegalState"};
+    static final String[] BANNED = {"->", "::", "finally", "catch", "try ", "synchronized", "assert",
+        "import ", "Exact(", "@", "hashCode", "toString", "static {", "lambda", "System.currentTimeMillis",
+        "System.nanoTime", "Object"};
 
     static int wrong = 0;
 
@@ -31,6 +51,7 @@ public final class FaceTests {
         face();
         inside();
         text();
+        room();
         System.out.println(wrong == 0 ? "all holds" : wrong + " things do not hold");
         if (wrong != 0) {
             System.exit(1);
@@ -42,7 +63,11 @@ public final class FaceTests {
         for (Class<?> type : method.getParameterTypes()) {
             shape.append(shape.charAt(shape.length() - 1) == '(' ? "" : ",").append(type);
         }
-        return shape + ")";
+        shape.append(')');
+        for (Class<?> type : method.getExceptionTypes()) {
+            shape.append(' ').append(type.getSimpleName().replace("Exception", ""));
+        }
+        return shape.toString();
     }
 
     static void face() {
@@ -63,6 +88,7 @@ public final class FaceTests {
         }
         for (Field field : type.getDeclaredFields()) {
             need(Modifier.isPrivate(field.getModifiers()) || field.getName().equals("NONE"), field.getName() + " is private");
+            need(Modifier.isFinal(field.getModifiers()) || !Modifier.isStatic(field.getModifiers()), field + " is final");
         }
         need(SwitchRows.NONE == -1, "NONE is -1");
     }
@@ -110,6 +136,23 @@ public final class FaceTests {
                 start = i;
             }
             need(start < 0 || i - start <= 60 || lines[i].isEmpty() || indent.length() <= 4, "short methods, at line " + i);
+        }
+    }
+
+    /** All calls of a run share one room: objects are made in field initialisers and constructors, and as exceptions. */
+    static void room() throws Exception {
+        String[] lines = Files.readString(Path.of("src/main/java/SwitchRows.java")).split("\n");
+        String opened = "";
+        for (int i = 0; i < lines.length; i++) {
+            String line = lines[i].trim();
+            if (line.endsWith("{") && line.contains("(") && !line.matches("(\\} else )?(if|for|while|switch|else|do)\\b.*")) {
+                opened = line;
+            }
+            boolean isField = line.matches("(private )?final \\S+ \\w+ = new .*;");
+            boolean isInConstructor = opened.matches("(public )?[A-Z]\\w*\\(.*");
+            need(!line.matches(".*\\bnew .*") || line.startsWith("throw new ") || isField || isInConstructor
+                || line.startsWith("*") || line.startsWith("/"), "nothing is made at line " + (i + 1));
+            need(!line.contains(".clone(") && !line.contains("Arrays."), "nothing is copied anew at line " + (i + 1));
         }
     }
 }

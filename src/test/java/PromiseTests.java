@@ -207,6 +207,18 @@ public final class PromiseTests extends Checks {
         due("it ended, but it moved", 1, () -> z.about(6));
     }
 
+    /** Call 0 moves for a new call, then for another output of call 1, then for another output of its own. */
+    static SwitchRows movedThreeTimes() {
+        SwitchRows x = loaded(TWO_APART);
+        x.connect(3, 1);
+        x.hang(2);
+        x.connect(1, 1);
+        x.join(1, 3);
+        x.hang(1);
+        x.join(0, 0);
+        return x;
+    }
+
     static void call() {
         promise = "promise 7";
         SwitchRows x = loaded(TWO_APART + "c0103");
@@ -221,6 +233,9 @@ public final class PromiseTests extends Checks {
         due("links of another", 2, () -> y.call(1, 4));
         due("the first call moved once", 1, () -> x.call(0, 3));
         due("the new one did not move", 0, () -> x.call(2, 3));
+        SwitchRows z = movedThreeTimes();
+        due("it moved three times", 3, () -> z.call(0, 3));
+        due("three moves in all", 3, () -> z.about(6));
         due("call -1", INDEX, () -> x.call(-1, 0));
         due("call 3 of three", INDEX, () -> x.call(3, 0));
         due("the call is looked at first", INDEX, () -> x.call(3, 5));
@@ -282,6 +297,11 @@ public final class PromiseTests extends Checks {
         due("the one that stayed got none", 0, () -> x.thanks(0, false));
         x.hang(0);
         due("the input keeps it", 1, () -> x.thanks(2, false));
+        SwitchRows y = movedThreeTimes();
+        due("two of three moves were for others", 2, () -> y.thanks(2, false));
+        due("the third one was for itself", 0, () -> y.thanks(2, true));
+        due("one was for a new call, which ended", 1, () -> y.thanks(3, true));
+        due("one was for another output of a call, which ended", 1, () -> y.thanks(0, true));
         due("input -1", INDEX, () -> x.thanks(-1, true));
         due("input 4 of four", INDEX, () -> x.thanks(4, false));
     }
